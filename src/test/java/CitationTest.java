@@ -96,6 +96,12 @@ public final class CitationTest {
         Checks.due("promise 9: order", "1 5 4 7 2 6 3", Checks.keys(x));
         Checks.due("promise 9: again", false, x.sort());
         Checks.due("promise 9: order again", "1 5 4 7 2 6 3", Checks.keys(x));
+        CiteForge two = Checks.listed("@a{b}@a{a}", 1, "b", "a");
+        two.define(0, 18, 0);
+        two.define(0, 20, 0);
+        two.run(0, 2);
+        Checks.due("promise 9: two", true, two.sort());
+        Checks.due("promise 9: two in order", "a b", Checks.keys(two));
         Checks.due("promise 9: nothing to sort", false, new CiteForge().sort());
     }
 
@@ -128,6 +134,10 @@ public final class CitationTest {
         Checks.due("crossref is one's own, as it was written", "P1", Checks.field(x, 0, "crossref"));
         Checks.due("crossref comes from nobody", "missing", Checks.field(x, 4, "crossref"));
         Checks.due("nobody is named", "missing", Checks.field(x, 3, "t"));
+        Checks.due("a key of eight characters", "1",
+            Checks.field(Checks.listed("@a{k,crossref=\"Abcdefg:\"}@a{aBCDEFG:,t=1}", 1, "k"), 0, "t"));
+        Checks.due("a ninth character names nobody", "missing",
+            Checks.field(Checks.listed("@a{k,crossref=\"abcdefghi\"}@a{abcdefgh,t=1}", 1, "k"), 0, "t"));
         Checks.due("one that names itself", "missing",
             Checks.field(Checks.listed("@a{k,crossref=\"k\"}", 1, "k"), 0, "t"));
         Checks.due("named before it is there", "1",

@@ -91,6 +91,7 @@ public final class DatabaseTest {
         Checks.due("blanks between: field", "1", Checks.field(x, 0, "T"));
         Checks.due("blanks between: warnings", 0, x.warnings(1));
         Checks.due("comment", 1, Checks.database("@comment{@a{k}}@COMMENT{\"").count(0));
+        Checks.due("comment is nothing wrong", 0, Checks.database("@comment{@a{k}}@COMMENT{\"").warnings(1));
         Checks.due("comment without brace", 1, Checks.database("@comment @a{k}").warnings(1));
         Checks.due("comment without brace: reads on", 1, Checks.database("@comment @a{k}").count(0));
         Checks.due("text without entries", 0, Checks.database("a {b} \"c\"").warnings(1));
@@ -103,6 +104,7 @@ public final class DatabaseTest {
 
     private static void words() {
         Checks.due("eight characters", "abcde:-9", Checks.keys(Checks.listed("@12345678{ABCDE:-9}", 1, "abcde:-9")));
+        Checks.due("the last letters and digits", "az:-09", Checks.keys(Checks.listed("@Z{AZ:-09}", 1, "aZ:-09")));
         Checks.due("a ninth in the key", 1, Checks.database("@a{abcdefghi}").warnings(1));
         Checks.due("a ninth in the type", 1, Checks.database("@abcdefghi{k}").warnings(1));
         Checks.due("a ninth in the field", 1, Checks.database("@a{k,abcdefghi=1}").warnings(1));
@@ -149,6 +151,8 @@ public final class DatabaseTest {
         CiteForge x = Checks.database("@a{k,t={" + sixty + "y}?}@string{s={" + sixty + "z}}@b{k2,u=s}");
         Checks.due("warning 3 of what is forgotten stays", 2, x.warnings(3));
         Checks.due("entry with a wrong end is forgotten", 1, x.count(0));
+        x = Checks.database("@a{k,t={" + sixty + "y}#?}@b{j,t={" + sixty + "}#{" + sixty);
+        Checks.due("what is no whole value is not too long", 0, x.warnings(3));
     }
 
     private static void wrongPlaces() {

@@ -134,6 +134,11 @@ public final class MachineTest {
         x.define(0, 15, 0);
         Checks.dueThrow("promise 13: nine deep", UnsupportedOperationException.class, () -> x.run(0, 0));
         Checks.due("promise 13: eight were done", 8, x.depth());
+        CiteForge y = new CiteForge();
+        y.define(0, 14, 6);
+        y.define(1, 0, 1);
+        Checks.dueThrow("promise 13: nine deep within 14", UnsupportedOperationException.class, () -> y.run(0, 0));
+        Checks.due("promise 13: all numbers were taken", 0, y.depth());
         insideTheEighth(13, 0);
         insideTheEighth(14, 1);
         insideTheEighth(15, 1);
@@ -188,6 +193,11 @@ public final class MachineTest {
         Checks.dueThrow("promise 17: behind the last", IndexOutOfBoundsException.class, () -> x.letter(1, 2));
         Checks.dueThrow("promise 17: of missing", IndexOutOfBoundsException.class, () -> x.letter(0, 0));
         Checks.dueThrow("promise 17: of a number", IndexOutOfBoundsException.class, () -> x.letter(2, 0));
+        CiteForge over = Checks.ran(1, Checks.bytes("ab"), 9, 0, 0, 5);
+        Checks.dueThrow("promise 17: of a number where a text was", IndexOutOfBoundsException.class, () -> over.letter(0, 0));
+        CiteForge gone = Checks.ran(1, Checks.bytes("ab"), 9, 0, 18, 0);
+        Checks.dueThrow("promise 17: of missing where a text was", IndexOutOfBoundsException.class, () -> gone.letter(0, 0));
+        Checks.due("promise 16: missing where a text was", 0, gone.value(0));
         Checks.due("promise 18: had", 3, x.empty());
         Checks.due("promise 18: none", 0, x.depth());
         Checks.due("promise 18: again", 0, x.empty());

@@ -111,6 +111,8 @@ public final class TextTest {
         forms("A B c", "A B c", "c, A. B.", "c", "A. B. c");
         forms("a b c", "a b c", "a b c", "c", "a b c");
         forms("von X", "von X", "von X", "X", "von X");
+        forms("von X Y", "von X Y", "von X Y", "X Y", "von X Y");
+        forms("von der X Y", "von der X Y", "von der X Y", "X Y", "von der X Y");
         forms("A~B", "A B", "B, A.", "B", "A. B");
         forms("  A  ~ B  ", "A B", "B, A.", "B", "A. B");
         forms("~", "", "", "", "");
@@ -159,6 +161,8 @@ public final class TextTest {
         forms("X, {'E}mile", "{'E}mile X", "X, E.", "X", "E. X");
         forms("X, 'e", "'e X", "X, e.", "X", "e. X");
         forms("X, {\"12}", "{\"12} X", "X, \".", "X", "\". X");
+        forms("'2 X", "'2 X", "X, '.", "X", "'. X");
+        forms("{'2} X", "{'2} X", "X, '.", "X", "'. X");
         forms("X, {}", "{} X", "X, .", "X", ". X");
         forms("X, {{a} b}c", "{{a} b}c X", "X, a.", "X", "a. X");
         forms("X, J.-P.", "J.-P. X", "X, J.", "X", "J. X");
@@ -210,11 +214,13 @@ public final class TextTest {
 
     private static void purify() {
         Checks.due("26", "\"Ab 1 c  dE\"", Checks.work(26, 0, "{A}b-1~c -d:.,E\"@"));
+        Checks.due("26: first and last", "\"a b\"", Checks.work(26, 0, "a b"));
         Checks.due("26: nothing", "\"\"", Checks.work(26, 0, "{}.:"));
     }
 
     private static void size() {
         Checks.due("27", "4", Checks.work(27, 0, "{a}b {c"));
+        Checks.due("27: without braces", "3", Checks.work(27, 0, "a b"));
         Checks.due("27: nothing", "0", Checks.work(27, 0, "{}}{"));
         Checks.due("27: missing", "0", Checks.stack(Checks.ran(2, 't', 27, 0)));
     }
