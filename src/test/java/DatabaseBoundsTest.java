@@ -340,6 +340,14 @@ public final class DatabaseBoundsTest {
         Checks.due("60: of a string, and of each value", 2, Checks.database(text).warnings(3));
         text = "@a{k,t={" + Checks.of('x', 61) + "},t={" + Checks.of('x', 61) + "}}";
         Checks.due("60: also of a field that is left out", 2, Checks.database(text).warnings(3));
+        for (String end : new String[] {"", "\"", "{", "?", "\"}"}) {
+            text = "@a{k,t={" + Checks.of('x', 61) + "}#" + end;
+            Checks.due("60: not of what is no whole value, " + end, 0, Checks.database(text).warnings(3));
+            text = "@a{k,t={" + Checks.of('x', 60) + "}#" + end;
+            Checks.due("60: not of 60 and what is no piece, " + end, 0, Checks.database(text).warnings(3));
+        }
+        text = "@a{k,t={" + Checks.of('x', 61) + "}?}";
+        Checks.due("60: of a whole value with something else behind it", 1, Checks.database(text).warnings(3));
     }
 
     private static void somethingElse() {

@@ -142,6 +142,7 @@ public final class ListBoundsTest {
         names("capitals", true, "ABCDEFGH", "abcdefgh");
         names("capitals of the key", true, "abc", "ABC");
         names("nine characters", false, "abcdefghi", "abcdefgh");
+        names("nine characters, the ninth as the first", false, "abcdefgha", "abcdefgh");
         names("blanks round it", true, " p\n", "p");
         names("less than the key", false, "abcdefg", "abcdefgh");
         names("more than the key", false, "abcdefgh", "abcdefg");
@@ -149,8 +150,24 @@ public final class ListBoundsTest {
         names("braces", false, "{p}", "p");
         names("a blank within", false, "p q", "p");
         Checks.due("crossref of pieces", "1", Checks.field(Checks.listed("@a{k,crossref=1#{x}#2}@a{1x2,t=1}", 1, "k"), 0, "t"));
+        oldCrossrefsAreGone();
         Checks.due("the first crossref counts", "1",
             Checks.field(Checks.listed("@a{k,crossref={p},crossref={q}}@a{p,t=1}@a{q,t=2}", 1, "k"), 0, "t"));
+    }
+
+    private static void oldCrossrefsAreGone() {
+        CiteForge x = Checks.listed("@a{k,crossref={p}}@a{p,t=1}", 1, "k");
+        x.erase();
+        Checks.write(x, "@a{k}@a{p,t=1}");
+        x.read();
+        Checks.due("crossref of an entry that was read before: the list", 1, x.list(1));
+        Checks.due("crossref of an entry that was read before", "missing", Checks.field(x, 0, "t"));
+        x = Checks.listed("@a{k,crossref={p},?}@a{k}@a{p,t=1}", 1, "k");
+        Checks.due("crossref of what is forgotten: the list", 1, x.count(1));
+        Checks.due("crossref of what is forgotten", "missing", Checks.field(x, 0, "t"));
+        x = Checks.listed("@a{k}@a{k,crossref={p}}@a{p,t=1}@a{j}", 1, "k", "j");
+        Checks.due("crossref of an entry whose key was there", "k j", Checks.keys(x));
+        Checks.due("crossref of an entry whose key was there: field", "missing", Checks.field(x, 1, "t"));
     }
 
     private static void oneStepOfInheritance() {

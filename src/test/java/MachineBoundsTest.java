@@ -24,6 +24,7 @@ public final class MachineBoundsTest {
         endlessRuns();
         anotherKind();
         nothingIsThere();
+        nothingIsThereAnyMore();
         missingAsText();
         lowest32Bits();
         bytesOfAText();
@@ -399,6 +400,25 @@ public final class MachineBoundsTest {
         String what = "operation " + operation + ", " + missing + " are not there";
         Checks.due(what, left(as, operation), left(x, operation));
         Checks.due(what + ": warnings 7", as.warnings(7) + missing, x.warnings(7));
+    }
+
+    /** What was taken before does not come back where nothing is there. */
+    private static void nothingIsThereAnyMore() {
+        String[] wants = {"1", "", "0 0", "0 0", "0"};
+        int[] operations = {7, 9, 10, 11, 12};
+        for (int i = 0; i < operations.length; i++) {
+            for (Object value : new Object[] {"a", 5, null}) {
+                CiteForge x = perform(with(value, value), 11, 0);
+                x.empty();
+                perform(x, operations[i], 0);
+                Checks.due("nothing is there any more for " + operations[i], wants[i], Checks.stack(x));
+            }
+        }
+        for (int operation : new int[] {8, 24, 25, 26, 28, 29}) {
+            CiteForge x = perform(with("a", "b"), 8, 0);
+            x.empty();
+            Checks.due("no text is there any more for " + operation, "\"\"", Checks.stack(perform(x, operation, 0)));
+        }
     }
 
     private static void missingAsText() {

@@ -15,6 +15,7 @@ public final class TextBoundsTest {
         whatHasNoWords();
         initials();
         formsOfSixty();
+        namesOneAfterAnother();
         moduloForms();
         firstCharacter();
         behindAColon();
@@ -310,6 +311,8 @@ public final class TextBoundsTest {
         initial("F. G.", "F G");
         initial("F. G.", "F~G");
         initial("F. . G.", "F {} G");
+        initial(". G.", "{} G");
+        initial(". .", "{} {}");
         initial("a.", "a");
         initial("z.", "'z");
         initial("A.", "@A");
@@ -330,6 +333,37 @@ public final class TextBoundsTest {
         form("F L" + fifty, 0, 1, "L" + fifty + ",F");
         form("F " + Checks.of('L', 55) + ", J", 0, 1, Checks.of('L', 55) + ",J,F");
         form("FF " + Checks.of('L', 54) + ", J", 0, 1, Checks.of('L', 54) + ",JK,FF");
+    }
+
+    /** Names of all sorts in one object: what one has is not in the next one. */
+    private static void namesOneAfterAnother() {
+        String[] texts = {"A b C and D", "L, J, F", "A B C D", "v L, F", "x", "L, J,", "", "A b C d E and v L, J, F and Z", ", F", "A b"};
+        for (int i = 0; i < texts.length; i++) {
+            for (int j = 0; j < texts.length; j++) {
+                for (int b = 1; b <= 3; b++) {
+                    behindAnother(texts[i], b, texts[j]);
+                }
+            }
+        }
+    }
+
+    private static void behindAnother(String first, int b, String second) {
+        CiteForge x = new CiteForge();
+        name(x, 0, first, b, 1);
+        for (int form = 0; form < 4; form++) {
+            name(x, 1, second, 1, form);
+            x.run(0, 0);
+            x.run(1, 0);
+            x.clear(1);
+            Checks.due("24: form " + form + " of [" + second + "] behind " + b + " of [" + first + "]",
+                Checks.work(24, form, second, 1), Checks.top(x, 0));
+        }
+    }
+
+    private static void name(CiteForge x, int function, String text, int b, int form) {
+        Checks.text(x, function, text);
+        Checks.number(x, function, b);
+        x.define(function, 24, form);
     }
 
     private static void moduloForms() {
@@ -372,6 +406,8 @@ public final class TextBoundsTest {
         capitals("A::Bc", 0, "A::BC");
         capitals("A: :Bc", 0, "A: :BC");
         capitals(":Ab", 0, ":AB");
+        capitals(": Ab", 0, ": AB");
+        capitals(":  Ab", 0, ":  AB");
         capitals("A:", 0, "A:");
         capitals("A: ", 0, "A: ");
         capitals("A}:Bc", 0, "A}:BC");
