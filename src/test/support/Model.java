@@ -8,7 +8,7 @@ import java.util.regex.Pattern;
 
 /**
  * The document written down a second time, with all that the Java library has, to compare CiteForge with.
- * Nothing here is taken from CiteForge; ModelMachine has the part about the machine.
+ * It shares no code with CiteForge, so that a slip in one shows; ModelMachine has the part about the machine.
  */
 class Model {
     static final Pattern WORD = Pattern.compile("[A-Za-z0-9:-]{1,8}");
